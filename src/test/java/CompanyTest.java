@@ -103,6 +103,9 @@ public final class CompanyTest {
         Check.due("those together", two.middle(0, 1), 5);
         Check.due("CENTRE, the least", two.middle(0, 2), 5);
         Check.due("how far", two.middle(0, 3), 3);
+        TwoEchoes edge = Check.valley("wide 5;seller 5 0;");
+        Check.due("MIDDLE at the wall", edge.middle(0, 0), 5);
+        Check.due("CENTRE at the wall", edge.middle(0, 2), 5);
         for (int what = 0; what < 4; what++) {
             Check.due("no PEOPLE", Check.valley("").middle(0, what), 0);
         }

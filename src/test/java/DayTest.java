@@ -128,7 +128,8 @@ public final class DayTest {
         for (int seed = -40; seed < 40; seed++) {
             byHand(seed, 1 + (seed + 40) % 60);
         }
-        Check.due("n 60", x.drawn(0, 77, 60, 0) <= 99, true);
+        Check.due("n 60", x.drawn(0, 77, 60, 0) >= 0, true);
+        Check.due("n 60, no further than 99", x.drawn(0, 77, 60, 0) <= 99, true);
     }
 
     /** Draws the same DEEDS here, tells those that may be as a DAY, and compares the STATES. */

@@ -5,6 +5,7 @@ public final class TextTest {
         refusals();
         tokens();
         brokenOff();
+        bytesBehindTheEnd();
         numbersThatCannotBe();
         tooMany();
         placesNotThere();
@@ -90,6 +91,8 @@ public final class TextTest {
         fails(0, "5 wide;", 1, 0);
         fails(0, " wides 5;", 1, 1);
         fails(0, "wid 5;", 1, 0);
+        fails(0, "xide 5;", 1, 0);
+        fails(0, "widez 5;", 1, 0);
         fails(0, "Wide 5;", 1, 0);
         fails(0, "wide\t5;", 1, 4);
         fails(0, "wide 5,", 1, 6);
@@ -107,6 +110,20 @@ public final class TextTest {
         fails(3, "heard 0 0;", 1, 9);
         fails(3, "not 0 0 0 0;", 1, 10);
         fails(3, "lies 1;", 1, 0);
+    }
+
+    /** What stood behind the end is no part of the text. */
+    private static void bytesBehindTheEnd() {
+        String[] fed = {"wide 12;", "wides 5;"};
+        int[] ends = {6, 4};
+        for (int k = 0; k < 2; k++) {
+            TwoEchoes x = new TwoEchoes();
+            Check.feed(x, fed[k]);
+            x.end(ends[k]);
+            Check.due("cut off", x.text(0, -1), -1);
+            Check.due("FAULT", x.fault(0), 1);
+            Check.due("at the end", x.fault(1), ends[k]);
+        }
     }
 
     private static void numbersThatCannotBe() {
@@ -145,6 +162,7 @@ public final class TextTest {
         String six = "buyer 0 0;seller 0 0;preacher 0 0;buyer 0 0;seller 0 0;preacher 0 0;";
         Check.valley(six);
         fails(0, six + "buyer 0 0;", 3, six.length());
+        fails(0, six + "seller 0 0;", 3, six.length());
         fails(0, six + " preacher 31 0;", 3, six.length() + 1);
         String four = "fog 0 0;snow 0 0;fog 0 0;snow 0 0;";
         Check.valley(four);
