@@ -86,14 +86,15 @@ public final class TwoEchoes {
     }
 
     public int text(int sort, int at) {
+        int length = told.length;
+        told.length = 0;
         told.fault = 0;
         told.faultPlace = NONE;
         int slot = told.slotFor(sort, at);
         if (slot == NONE) {
             return REFUSED;
         }
-        reader.read(told.length, sort);
-        told.length = 0;
+        reader.read(length, sort);
         told.fault = reader.fault;
         told.faultPlace = reader.faultPlace;
         if (told.fault != 0) {

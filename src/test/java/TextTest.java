@@ -24,7 +24,7 @@ public final class TextTest {
             }
             Check.due("a third", Check.tell(x, sort, texts[sort]), -2);
             Check.due("FAULT of a third", x.fault(0), 0);
-            x.end(0);
+            Check.due("the tape of a third is taken", x.end(1), -1);
             Check.feed(x, texts[sort]);
             Check.due("in the place of 1", x.text(sort, 1), 1);
             Check.due("the tape is empty then", x.end(1), -1);
@@ -46,22 +46,42 @@ public final class TextTest {
     }
 
     private static void refusals() {
-        TwoEchoes x = Check.valley("wide 5;");
-        Check.due("a FAULT ahead", Check.tell(x, 0, "wide 1;"), -1);
-        Check.feed(x, "wide 1;");
-        Check.due("sort 4", x.text(4, -1), -2);
-        Check.due("no text is read: FAULT", x.fault(0), 0);
-        Check.due("no text is read: place", x.fault(1), -1);
-        Check.due("sort -1", x.text(-1, -1), -2);
-        Check.due("at 1", x.text(0, 1), -2);
-        Check.due("at -2", x.text(0, -2), -2);
-        Check.due("at 0 of none", x.text(1, 0), -2);
-        Check.due("at 2", x.text(0, 2), -2);
-        Check.due("the tape is not taken", x.end(7), 7);
+        int[][] sortAndAt = {
+            {4, -1}, {-1, -1}, {4, 0}, {Integer.MAX_VALUE, 0}, {Integer.MIN_VALUE, -1},
+            {0, 1}, {0, 2}, {0, -2}, {0, Integer.MAX_VALUE}, {0, Integer.MIN_VALUE},
+            {1, 0}, {1, 1}, {1, -2}, {2, 0}, {2, 1}, {2, -2}, {3, 0}, {3, 1}, {3, -2},
+        };
+        for (int[] pair : sortAndAt) {
+            TwoEchoes x = Check.valley("wide 5;");
+            refused(x, 0, pair[0], pair[1]);
+            Check.due("the VALLEY stays", x.valley(0, 0), 5);
+        }
+        for (int sort = 0; sort < 4; sort++) {
+            TwoEchoes x = new TwoEchoes();
+            Check.tell(x, sort, "");
+            Check.tell(x, sort, "");
+            refused(x, sort, sort, -1);
+            refused(x, sort, sort, 2);
+            Check.due("still two", x.count(sort), 2);
+        }
+        TwoEchoes x = new TwoEchoes();
         Check.due("fault(2)", x.fault(2), -1);
         Check.due("fault(-1)", x.fault(-1), -1);
-        Check.due("it is read then", x.text(0, -1), -1);
-        Check.due("its FAULT", x.fault(0), 2);
+    }
+
+    /** With -2, too, the tape is taken; but no text is read of it, so that no FAULT of it is told. */
+    private static void refused(TwoEchoes x, int sortThere, int sort, int at) {
+        String call = "text(" + sort + ", " + at + ")";
+        Check.feed(x, "x");
+        Check.due("a FAULT ahead", x.text(sortThere, 0), -1);
+        Check.feed(x, "wide 1; no text of any sort");
+        Check.due(call, x.text(sort, at), -2);
+        Check.due(call + ": FAULT", x.fault(0), 0);
+        Check.due(call + ": its place", x.fault(1), -1);
+        Check.due(call + ": the tape is taken", x.end(1), -1);
+        Check.due(call + ": feed behind it", x.feed(0, 0, 0, 0, 0), 20);
+        Check.due(call + ", fed anew", x.text(sort, at), -2);
+        Check.due(call + ", empty", x.text(sort, at), -2);
     }
 
     private static void tokens() {
