@@ -5,10 +5,21 @@ final class Check {
     static final String VALLEY = "wide 10;should 1 2;should 2 1;should 3 1;thought 1 4;weight 0 5;weight 1 3;"
         + "seller 2 30;buyer 5 50;buyer 9 40;seller 7 45;preacher 0 0;fog 20 30;snow 40 50;";
 
+    private static String topic = "";
     private static int wrong = 0;
     private static int calls = 0;
 
     private Check() {
+    }
+
+    /** What the answers below belong to; it is printed ahead of each wrong one. */
+    static void about(String sentence) {
+        topic = sentence;
+    }
+
+    /** How many answers have been looked at so far. */
+    static int looked() {
+        return calls;
     }
 
     static void due(String call, long got, long want) {
@@ -16,7 +27,7 @@ final class Check {
         if (got != want) {
             wrong++;
             if (wrong <= 50) {
-                System.out.println(call + " answered " + got + ", due is " + want);
+                System.out.println(topic + call + " answered " + got + ", due is " + want);
             }
         }
     }
