@@ -2,14 +2,11 @@ import java.lang.reflect.Constructor;
 import java.lang.reflect.Field;
 import java.lang.reflect.Method;
 import java.lang.reflect.Modifier;
-import java.nio.file.Files;
-import java.nio.file.Path;
 import java.util.Arrays;
 import java.util.Set;
 import java.util.TreeSet;
-import java.util.regex.Pattern;
 
-/** The face is the document's and no more; the source keeps to what LANGUAGE.md leaves. */
+/** The face is the document's and no more (rule 1 of LANGUAGE.md); LanguageTest looks at the other rules. */
 public final class FaceTest {
     private static final String[] FACE = {
         "int feed(int,int,int,int,int)", "int end(int)", "int text(int,int)", "int fault(int)", "int valley(int,int)",
@@ -26,7 +23,6 @@ public final class FaceTest {
         methods();
         fields();
         classesInside();
-        source();
         Check.end("FaceTest");
     }
 
@@ -93,24 +89,6 @@ public final class FaceTest {
             Check.due(one + " is static", Modifier.isStatic(one.getModifiers()), true);
             Check.due(one + " is not public", Modifier.isPublic(one.getModifiers()), false);
             checkFields(one);
-        }
-    }
-
-    private static void source() throws Exception {
-        String text = Files.readString(Path.of("src/main/java/TwoEchoes.java"));
-        String code = text.replaceAll("(?s)/\\*.*?\\*/", "").replaceAll("//[^\n]*", "");
-        for (String word : new String[] {"throw", "throws", "try", "catch", "finally", "synchronized", "assert", "package",
-            "double", "float", "Exact", "System\\.(?!arraycopy)\\w+", "->", "::", "hashCode", "toString", "record"}) {
-            String bounded = word.matches("\\w+") ? "\\b" + word + "\\b" : word;
-            Check.due("'" + word + "' in the source", Pattern.compile(bounded).matcher(code).find(), false);
-        }
-        int since = 0;
-        for (String line : text.split("\n")) {
-            boolean begins = line.matches("( {4}| {8})\\S.*\\) \\{") && !line.contains(" class ");
-            since = begins ? 0 : since + 1;
-            boolean ends = line.equals("    }") || line.equals("        }");
-            Check.due("a method is sixty lines at most", ends && since > 60 && !line.equals("    }"), false);
-            Check.due("a line is 120 signs at most: " + line, line.length() <= 120, true);
         }
     }
 }

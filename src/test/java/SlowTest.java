@@ -4,8 +4,9 @@ import java.util.List;
 import java.util.PriorityQueue;
 import java.util.Random;
 import java.util.Set;
+import java.util.function.IntUnaryOperator;
 
-/** Random VALLEYS, DAYS and LESSONS, each answer found a second time in another, slower way. */
+/** Random VALLEYS, DAYS, SEEDS and LESSONS, each answer found a second time in another, slower way. */
 public final class SlowTest {
     private static final int[] RANGE = {6, 18, 99};
     private static final String[] KIND = {"seller", "buyer", "preacher"};
@@ -25,10 +26,14 @@ public final class SlowTest {
         for (int seed = 0; seed < 700; seed++) {
             SlowTest test = new SlowTest(seed);
             test.days();
+            test.draws();
+            test.skies();
             test.markets();
+            test.auctions();
             test.talks();
             test.words();
             test.places();
+            test.middles();
             test.matches();
             test.lessons();
         }
@@ -136,6 +141,10 @@ public final class SlowTest {
     }
 
     private void compareState(int n, int now, int sayings, int[] at, List<int[]> heard) {
+        compare(what -> x.state(0, 0, n, what), now, sayings, at, heard);
+    }
+
+    private void compare(IntUnaryOperator state, int now, int sayings, int[] at, List<int[]> heard) {
         int[] bits = new int[6];
         int[] often = new int[6];
         int[] first = {-1, -1, -1, -1, -1, -1};
@@ -154,17 +163,127 @@ public final class SlowTest {
             }
         }
         int least = clashes.stream().mapToInt(c -> c).min().orElse(-1);
-        Check.due("NOW", x.state(0, 0, n, 0), now);
-        Check.due("sayings", x.state(0, 0, n, 1), sayings);
-        Check.due("CLASHES", x.state(0, 0, n, 2), clashes.size());
-        Check.due("first CLASH", x.state(0, 0, n, 3), least < 0 ? -1 : least / 10);
-        Check.due("first who clashes", x.state(0, 0, n, 4), least < 0 ? -1 : least % 10);
+        Check.due("NOW", state.applyAsInt(0), now);
+        Check.due("sayings", state.applyAsInt(1), sayings);
+        Check.due("CLASHES", state.applyAsInt(2), clashes.size());
+        Check.due("first CLASH", state.applyAsInt(3), least < 0 ? -1 : least / 10);
+        Check.due("first who clashes", state.applyAsInt(4), least < 0 ? -1 : least % 10);
         for (int person = 0; person < 6; person++) {
             boolean isThere = person < people.size();
-            Check.due("PLACE", x.state(0, 0, n, 10 + person), isThere ? at[person] : -2);
-            Check.due("WORDS", x.state(0, 0, n, 20 + person), isThere ? bits[person] : -2);
-            Check.due("how often", x.state(0, 0, n, 30 + person), isThere ? often[person] : -2);
-            Check.due("first", x.state(0, 0, n, 40 + person), isThere ? first[person] : -2);
+            Check.due("PLACE", state.applyAsInt(10 + person), isThere ? at[person] : -2);
+            Check.due("WORDS", state.applyAsInt(20 + person), isThere ? bits[person] : -2);
+            Check.due("how often", state.applyAsInt(30 + person), isThere ? often[person] : -2);
+            Check.due("first", state.applyAsInt(40 + person), isThere ? first[person] : -2);
+        }
+    }
+
+    /** The same numbers drawn here, of 32 bits within a long; a DEED that can't be is passed over. */
+    private void draws() {
+        int seed = random.nextInt();
+        int n = random.nextInt(61);
+        if (people.isEmpty()) {
+            Check.due("DRAWN without PEOPLE", x.drawn(0, seed, n, 0), -2);
+            return;
+        }
+        long[] bits = {seed};
+        int[] at = people.stream().mapToInt(p -> p[1]).toArray();
+        List<int[]> heard = new ArrayList<>();
+        int now = 0;
+        int sayings = 0;
+        for (int k = 0; k < n; k++) {
+            int person = below(bits, people.size());
+            int act = below(bits, 6);
+            int number = below(bits, act < 3 ? 8 : act < 5 ? wide + 1 : 9);
+            int takes = act < 3 ? 0 : act < 5 ? Math.abs(at[person] - number) : 1 + number;
+            if (now + takes > 99) {
+                continue;
+            }
+            now += takes;
+            if (act < 3) {
+                sayings++;
+                shoutAbout(heard, at, person, number, act, now);
+            } else if (act < 5) {
+                at[person] = number;
+            }
+        }
+        compare(what -> x.drawn(0, seed, n, what), now, sayings, at, heard);
+    }
+
+    private static int below(long[] bits, int n) {
+        bits[0] = (bits[0] * 1103515245L + 12345L) & 0xffffffffL;
+        return (int) (bits[0] / 65536 % n);
+    }
+
+    /** WEATHER, what the walls give, when it is heard, LATE. */
+    private void skies() {
+        StringBuilder clear = new StringBuilder();
+        for (int minute = 0; minute < 100; minute++) {
+            int due = (fog[minute] ? 1 : 0) + (snow[minute] ? 2 : 0);
+            clear.append(due == 0 ? '.' : ' ');
+            Check.due("WEATHER", x.weather(0, minute), due);
+            int word = random.nextInt(8);
+            int right = fog[minute] ? word : should[word];
+            int left = snow[minute] ? -1 : fog[minute] ? should[word] : word;
+            Check.due("LEFT gives", x.gives(0, word, minute, 1), left);
+            Check.due("RIGHT gives", x.gives(0, word, minute, 2), right);
+            int from = random.nextInt(wide + 1);
+            int to = random.nextInt(wide + 1);
+            int loud = random.nextInt(3);
+            int[] way = {Math.max(from, to) - Math.min(from, to), from + to, wide - from + wide - to};
+            int[] thinks = {0, fog[minute] ? thought[word] : 0, fog[minute] ? 0 : thought[word]};
+            for (int by = 0; by < 3; by++) {
+                boolean isHeard = way[by] <= RANGE[loud] && !(by == 1 && snow[minute]);
+                Check.due("heard", x.heard(0, from, word, loud, minute, to, by),
+                    isHeard ? minute + way[by] + thinks[by] : -1);
+            }
+            Check.due("LATE", x.late(0, from, word), wide - from + thought[word] + wide - from);
+        }
+        int longest = 0;
+        for (String run : clear.toString().split(" ")) {
+            longest = Math.max(longest, run.length());
+        }
+        Check.due("CLEAR", x.weather(0, -1), longest);
+    }
+
+    private void middles() {
+        int[] sums = new int[wide + 1];
+        int[] furthest = new int[wide + 1];
+        for (int place = 0; place <= wide; place++) {
+            for (int[] person : people) {
+                sums[place] += Math.abs(person[1] - place);
+                furthest[place] = Math.max(furthest[place], Math.abs(person[1] - place));
+            }
+        }
+        Check.due("MIDDLE", x.middle(0, 0), indexOfLeast(sums));
+        Check.due("MIDDLE, together", x.middle(0, 1), sums[indexOfLeast(sums)]);
+        Check.due("CENTRE", x.middle(0, 2), indexOfLeast(furthest));
+        Check.due("CENTRE, how far", x.middle(0, 3), furthest[indexOfLeast(furthest)]);
+    }
+
+    private static int indexOfLeast(int[] row) {
+        int least = java.util.Arrays.stream(row).min().orElse(-1);
+        int first = 0;
+        while (row[first] != least) {
+            first++;
+        }
+        return first;
+    }
+
+    /** Bids in order, the greatest first: the second one, or the SELLER's WISH, is the price. */
+    private void auctions() {
+        List<int[]> bids = new ArrayList<>();
+        for (int p = 0; p < people.size(); p++) {
+            if (people.get(p)[0] == 1) {
+                bids.add(new int[] {people.get(p)[2], p});
+            }
+        }
+        bids.sort((a, b) -> a[0] != b[0] ? b[0] - a[0] : a[1] - b[1]);
+        for (int p = 0; p < people.size(); p++) {
+            int wish = people.get(p)[2];
+            boolean isSold = people.get(p)[0] == 0 && !bids.isEmpty() && bids.get(0)[0] >= wish;
+            int price = bids.size() > 1 ? Math.max(wish, bids.get(1)[0]) : wish;
+            Check.due("AUCTION, who", x.auction(0, p, false), isSold ? bids.get(0)[1] : -1);
+            Check.due("AUCTION, for how much", x.auction(0, p, true), isSold ? price : -1);
         }
     }
 
